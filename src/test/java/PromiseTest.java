@@ -98,6 +98,7 @@ public final class PromiseTest {
     }
     for (int j = 0; j < 12; j++) due("joint(" + j + ", 4)", x.joint(j, 4), 1000);
     for (int s = 0; s < 4; s++) due("row(" + s + ", 0, 1)", x.row(s, 0, 1), NULL);
+    due("many()", x.many(), 512);
     NeedlePlate y = new NeedlePlate();
     y.want(0, 7);
     due("want of another object", x.want(0, 1), 0);
@@ -243,7 +244,9 @@ public final class PromiseTest {
 
   private static void gauge() {
     NeedlePlate x = line();
+    due("best(0)", x.best(0), 1);
     due("gauge(1)", x.gauge(1), 0);
+    due("best(0)", x.best(0), 3);
     due("joint(0, 4)", x.joint(0, 4), 995);
     due("joint(1, 4)", x.joint(1, 4), 1003);
     due("needle(1, 0)", x.needle(1, 0), 1);
@@ -704,6 +707,7 @@ public final class PromiseTest {
 
   private static void draw() {
     NeedlePlate x = line();
+    due("draw(0, 0)", x.draw(0, 0), 1);
     due("draw(5, 0)", x.draw(5, 0), 2);
     due("draw(5, 1)", x.draw(5, 1), 5);
     due("draw(5, 2)", x.draw(5, 2), NONE);
@@ -772,6 +776,9 @@ public final class PromiseTest {
     due("put(0, 2, 1, 12, 5)", x.put(0, 2, 1, 12, 5), INDEX);
     due("row(0, 1, 12), new", x.row(0, 1, 12), 1);
     due("item(0, 2, 1, 11), new", x.item(0, 2, 1, 11), 0);
+    x.put(0, 2, 1, 0, 6);
+    due("row(0, 0, 12)", x.row(0, 0, 12), 1);
+    due("item(0, 2, 1, 0), another ROW", x.item(0, 2, 1, 0), 6);
     due("row(0, 0, 0)", x.row(0, 0, 0), 1);
     due("put(0, 2, 0, 0, 5), none", x.put(0, 2, 0, 0, 5), INDEX);
   }
@@ -889,6 +896,7 @@ public final class PromiseTest {
     x.row(0, 0, 4);
     int[] wants = {1000, -1000, 7, 1001};
     for (int i = 0; i < 4; i++) x.put(0, 2, 0, i, wants[i]);
+    due("many()", x.many(), 512);
     due("read(0, 0, 9, 3)", x.read(0, 0, 9, 3), 3);
     due("joint(8, 4)", x.joint(8, 4), 1000);
     due("joint(9, 4)", x.joint(9, 4), 2000);
