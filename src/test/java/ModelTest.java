@@ -10,25 +10,26 @@ import java.util.Random;
  * exceptions are the findings, every search tries all that there is.
  */
 public final class ModelTest {
-  private static final int RUNS = 600;
-  private static final int CALLS = 512;
+  private static final int RUNS = 4600;
+  // a step asks an object for six answers at most, and an object has 512 calls
+  private static final int STEPS = 85;
   private static final int MOST_TOLD = 20;
 
   public static void main(String[] args) {
     int wrong = 0;
-    long calls = 0;
+    long steps = 0;
     for (int run = 0; run < RUNS && wrong < MOST_TOLD; run++) {
       Driver driver = new Driver(run);
-      for (int i = 0; i < CALLS; i++) {
-        calls++;
+      for (int i = 0; i < STEPS; i++) {
+        steps++;
         if (!driver.step()) {
-          System.out.println("run " + run + ", call " + i + ": " + driver.told);
+          System.out.println("run " + run + ", step " + i + ": " + driver.told);
           wrong++;
           break;
         }
       }
     }
-    System.out.println(wrong == 0 ? calls + " calls are as the model has them" : wrong + " runs went wrong");
+    System.out.println(wrong == 0 ? steps + " steps are as the model has them" : wrong + " runs went wrong");
     if (wrong != 0) System.exit(1);
   }
 
@@ -492,6 +493,9 @@ public final class ModelTest {
       random = new Random(run);
       int[] reaches = {1, 3, 10, 1000};
       reach = reaches[run % reaches.length];
+      int[] size = Check.SIZES[run % Check.SIZES.length];
+      real.plate(size[0], size[1]);
+      model.plate(size[0], size[1]);
     }
 
     /** Mostly 0 .. n - 1, now and then past its ends. */
