@@ -1,3 +1,6 @@
+import java.util.List;
+import java.util.function.Consumer;
+
 /**
  * The plate, sentence by sentence: what the Terms and the promises 1 to 20 and 34 to 35 say of too small, too
  * large, empty, full and wrapped around. What a refused call leaves as it was is in RefusalTest.
@@ -540,6 +543,12 @@ public final class PlateBoundaryTest {
     x.kind(2, 1);
     due("arrange(1), all HELD", x.arrange(1), 3);
     due("needle(2, 0)", x.needle(2, 0), 0);
+    // neither the ARRANGEMENT nor what is TOLD comes to the TURN of one that is HELD
+    x.turn(0);
+    x.tell(1, 1);
+    due("arrange(2), all HELD", x.arrange(2), 5);
+    due("needle(0, 0), TOLD 0", x.needle(0, 0), 1);
+    due("needle(1, 0), TOLD 1", x.needle(1, 0), 0);
   }
 
   private static void one() {
@@ -583,6 +592,14 @@ public final class PlateBoundaryTest {
     held.let(0, true);
     due("one(), LET GO", held.one(), 1);
     due("point(0)", held.point(0), 1);
+    NeedlePlate largest = sized(3, 4);
+    due("one() of twelve", largest.one(), 0);
+    largest.want(16, -1);
+    due("one() of twelve", largest.one(), 1);
+    due("point(7), the first one", largest.point(7), 1);
+    largest.kind(7, 1);
+    due("one() of twelve, the last one", largest.one(), 1);
+    due("point(11)", largest.point(11), 1);
   }
 
   private static void undo() {
@@ -621,6 +638,43 @@ public final class PlateBoundaryTest {
     due("joint(0, 4)", x.joint(0, 4), 1000);
     says("promise 11", "kind(), tell(), let(), turn(), gauge(), want(), arrange(), one(), read()");
     eachIsUndone();
+    says("promise 11", "All is as ahead of the latest");
+    allIsGivenBack();
+  }
+
+  private static String settingOf(NeedlePlate x) {
+    StringBuilder seen = new StringBuilder();
+    for (int i = 0; i < 4; i++) {
+      for (int what = 0; what < 5; what++) seen.append(x.needle(i, what));
+      seen.append(' ');
+    }
+    for (int j = 0; j < 4; j++) seen.append(x.joint(j, 4)).append(' ');
+    return seen.append(x.strain()).toString();
+  }
+
+  private static final List<Consumer<NeedlePlate>> CHANGES = List.of(
+      x -> x.kind(0, 4), x -> x.tell(0, 1), x -> x.let(0, true), x -> x.turn(0), x -> x.want(0, -5),
+      x -> x.want(3, 7), x -> x.gauge(0), x -> x.kind(0, 4), x -> x.let(0, true), x -> x.kind(0, 2),
+      x -> x.kind(1, 1), x -> x.kind(2, 3), x -> x.arrange(9), x -> x.one(), x -> x.read(0, 0, 1, 2),
+      x -> x.tell(0, 0), x -> x.tell(3, 1), x -> x.turn(1), x -> x.gauge(3), x -> x.arrange(0));
+
+  private static NeedlePlate changed(int changes) {
+    NeedlePlate x = sized(2, 2);
+    x.strip(0, 0, 1);
+    x.row(0, 0, 2);
+    x.put(0, 0, 0, 0, -8);
+    x.put(0, 0, 0, 1, 9);
+    for (Consumer<NeedlePlate> change : CHANGES.subList(0, changes)) change.accept(x);
+    return x;
+  }
+
+  private static void allIsGivenBack() {
+    int all = CHANGES.size();
+    for (int left = all; left >= 0; left--) {
+      NeedlePlate x = changed(all);
+      for (int k = all - 1; k >= left; k--) due("undo()", x.undo(), k);
+      Check.dueText("what is seen with " + left + " changes left", settingOf(x), settingOf(changed(left)));
+    }
   }
 
   /** Each of the nine, even where it changes nothing, is one that can be undone. */
@@ -794,6 +848,8 @@ public final class PlateBoundaryTest {
     x.want(2, 0);
     due("apart(0, 2), over a WANT of 0", x.apart(0, 2), 0);
     due("apart(0, 3), by 2", x.apart(0, 3), 4000);
+    // each FIELD may be the one on the way of two others
+    for (int over = 0; over < 5; over++) wayOver(over);
     NeedlePlate y = line();
     due("apart(0, 0), one row", y.apart(0, 0), 0);
     // outside has two JOINTS with a corner's FIELD: the lesser one is gone over
@@ -802,6 +858,14 @@ public final class PlateBoundaryTest {
     due("apart(0, 1)", z.apart(0, 1), 7);
     z.want(0, -2);
     due("apart(0, 1)", z.apart(0, 1), 2);
+  }
+
+  private static void wayOver(int over) {
+    NeedlePlate x = sized(3, 3);
+    for (int j = 0; j < 12; j++) x.want(j, x.joint(j, 2) == over || x.joint(j, 3) == over ? -1 : 50);
+    int[] beside = over == 0 || over == 3 ? new int[] {1, 2} : new int[] {0, 3};
+    due("apart() over " + over, x.apart(beside[0], beside[1]), 2);
+    due("apart() over " + over, x.apart(beside[1], beside[0]), 2);
   }
 
   private static void paired() {

@@ -126,6 +126,11 @@ public final class SearchBoundaryTest {
     due("sure(1)", x.sure(1), -1);
     hold(x, 2, 1);
     due("sure(1), HELD against its WANT", x.sure(1), 1);
+    for (int a = 0; a < 8; a++) {
+      for (int i = 0; i < 3; i++) x.tell(i, a >> (2 - i) & 1);
+      due("sure(0), one alone MAY BE, " + a, x.sure(0), (a >> 2 & 1) == (a >> 1 & 1) ? 1 : -1);
+      due("sure(1), one alone MAY BE, " + a, x.sure(1), (a >> 1 & 1) == (a & 1) ? 1 : -1);
+    }
     // in all that have LEAST, not in all that MAY BE: one of four round a field is UNMET, the weakest
     NeedlePlate y = sized(2, 2);
     y.want(0, 3);
