@@ -143,6 +143,12 @@ public final class SearchBoundaryTest {
     due("sure(0), two as weak", y.sure(0), 0);
     due("sure(3), two as weak", y.sure(3), 0);
     due("sure(1)", y.sure(1), 1);
+    // without one that is HELD the first and the last of these are each other's opposite; with one, they differ in kind
+    NeedlePlate z = sized(1, 2);
+    hold(z, 0, 0);
+    due("sure(0), alike in the first, differently in the last", z.sure(0), 0);
+    hold(z, 0, 1);
+    due("sure(0), differently in the first, alike in the last", z.sure(0), 0);
   }
 
   private static void counts() {
